@@ -9,7 +9,6 @@ public final class GarbleWords {
     private static final int SETTINGS = 3;
     private static final int[] LOWEST = {1, 2, 1};
     private static final int[] HIGHEST = {99, 15, 4};
-    private static final int[] AT_FIRST = {10, 8, 3};
 
     private static final int ALPHABET = 26, CODE_ALPHABET = 6, PLAIN_ALPHABET = 20;
     private static final int WORD_LETTERS = 12, SENT_LETTERS = WORD_LETTERS + 1, CODE_LETTERS = 4;
@@ -364,7 +363,8 @@ public final class GarbleWords {
     }
 
     private static int unlikePlaces(int code, int other) {
-        return unlikeInHalf(code / HALF_CODES, other / HALF_CODES) + unlikeInHalf(code % HALF_CODES, other % HALF_CODES);
+        return unlikeInHalf(code / HALF_CODES, other / HALF_CODES)
+            + unlikeInHalf(code % HALF_CODES, other % HALF_CODES);
     }
 
     /** The distance of two halves of code words, of two letters each. */
@@ -730,7 +730,7 @@ public final class GarbleWords {
 
     /** Everything that is undone, saved and restored. */
     private static final class State {
-        private final int[] settings = AT_FIRST.clone();
+        private final int[] settings = {10, 8, 3};
         private final Book book = new Book();
         private final Telegram telegram = new Telegram();
 
@@ -856,7 +856,7 @@ public final class GarbleWords {
             return at(costs, 0);
         }
 
-        /** Of equally good ways the later one is taken: code words come behind plain ones, long phrases behind short ones. */
+        /** Of equally good ways the later one is taken: code words are tried behind plain ones, the longest last. */
         private boolean isNoWorse(int first, int span, int cost) {
             int newCost = cost + at(costs, first + span);
             int newCount = 1 + at(counts, first + span);

@@ -31,7 +31,8 @@ public final class FaceTest {
     }
 
     private static void constants() throws Exception {
-        String[] names = {"NO_SUCH", "BAD_VALUE", "BAD_TEXT", "TOO_MANY", "NOT_POSSIBLE", "NONE", "COST", "WIDE", "APART"};
+        String[] names = {
+            "NO_SUCH", "BAD_VALUE", "BAD_TEXT", "TOO_MANY", "NOT_POSSIBLE", "NONE", "COST", "WIDE", "APART"};
         int[] values = {-1, -2, -3, -4, -5, -6, 0, 1, 2};
         Set<String> seen = new TreeSet<>();
         for (Field field : GarbleWords.class.getDeclaredFields()) {

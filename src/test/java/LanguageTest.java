@@ -10,8 +10,8 @@ public final class LanguageTest {
     private static final String[] RULED_OUT = {
         "package", "import", "throw", "throws", "try", "catch", "finally", "synchronized", "assert", "var", "record",
         "interface", "extends", "implements", "protected", "volatile", "transient", "native", "float", "double",
-        "Object", "Exception", "Thread", "Random", "Class", "System\\.(?!arraycopy\\()", "\\w+Exact", "equals", "hashCode",
-        "toString", "->", "::", "yield"};
+        "Object", "Exception", "Thread", "Random", "Class", "System\\.(?!arraycopy\\()", "\\w+Exact", "equals",
+        "hashCode", "toString", "->", "::", "yield"};
 
     public static void main(String[] args) throws Exception {
         String source = Files.readString(Path.of("src/main/java/GarbleWords.java"));

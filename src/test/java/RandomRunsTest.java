@@ -174,7 +174,8 @@ public final class RandomRunsTest {
                 is("entry(" + entry + ", " + what + ")", x.entry(entry, what), model.entry(entry, what));
                 break;
             case 2:
-                is("phraseSign(" + entry + ", " + place + ")", x.phraseSign(entry, place), model.phraseSign(entry, place));
+                is("phraseSign(" + entry + ", " + place + ")", x.phraseSign(entry, place),
+                    model.phraseSign(entry, place));
                 break;
             case 3, 4: is("count(" + place + ")", x.count(place), model.count(place)); break;
             case 5: is("letter(" + word + ", " + place + ")", x.letter(word, place), model.letter(word, place)); break;

@@ -1,7 +1,7 @@
 import com.sun.management.ThreadMXBean;
 import java.lang.management.ManagementFactory;
 
-/** All calls of a run live in one room, from which nothing is taken away: an object may make its rows, and no call more. */
+/** All calls of a run live in one room, from which nothing is taken away: an object makes its rows, a call no more. */
 public final class RoomTest {
     private static final Due due = new Due();
     private static final ThreadMXBean THREADS = (ThreadMXBean) ManagementFactory.getThreadMXBean();
