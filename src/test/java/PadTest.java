@@ -173,8 +173,8 @@ public final class PadTest {
     }
 
     private static void putNoMoreCharacters() {
-        due.promise(20, "8 bits that are 0 mean that there are no more characters, and everything above them has to be 0,"
-            + " too.");
+        due.promise(20, "8 bits that are 0 mean that there are no more characters, and everything above them has to be"
+            + " 0, too.");
         GarbleWords x = new GarbleWords();
         for (int characters = 1; characters <= 7; characters++) {
             long number = Due.packed("g".repeat(characters));

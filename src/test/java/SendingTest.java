@@ -67,8 +67,8 @@ public final class SendingTest {
     }
 
     private static void sentWords() {
-        due.term("It is sent as a row of sent words: a sent word is the code word of an entry, for a phrase that stands in"
-            + " the message, or a plain word with its check letter behind it");
+        due.term("It is sent as a row of sent words: a sent word is the code word of an entry, for a phrase that"
+            + " stands in the message, or a plain word with its check letter behind it");
         GarbleWords x = Due.book("go", "so/no", "to/mo/" + LONGEST);
         Due.send(x, "no/so/no/go/to/mo/" + LONGEST + "/" + LONGEST);
         due.word(x, 0, "nov");

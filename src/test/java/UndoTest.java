@@ -173,8 +173,8 @@ public final class UndoTest {
     }
 
     private static void recordsEachChange() {
-        due.promise(23, "each method that is a change, and returns no error, records the state before it (also if nothing"
-            + " is different then);");
+        due.promise(23, "each method that is a change, and returns no error, records the state before it (also if"
+            + " nothing is different then);");
         for (int kind = 0; kind < CHANGES; kind++) {
             GarbleWords x = new GarbleWords();
             Due.enter(x, "go");
